@@ -164,7 +164,7 @@ public final class CherryStation {
         Tank from = tankAt(tank);
         Bed onto = bedAt(bed);
         int kilos = from.mix.kilos;
-        if (from.mix.isEmpty() || !onto.takes(kilos) || isHoney && from.points >= 30) {
+        if (from.mix.isEmpty() || !onto.takes(kilos) || (isHoney && from.points >= 30)) {
             throw new IllegalStateException("the tank can't be washed so onto that bed");
         }
         onto.begin(isHoney ? HONEY : WASHED, isHoney ? 570 : 550, from.points);
@@ -429,9 +429,10 @@ public final class CherryStation {
         int bestScore = NONE;
         for (int i = 0; i < lotCount; i++) {
             for (int j = i + 1; j < lotCount; j++) {
-                // Only a greater SCORE is better: of several, the smallest number comes first here.
-                if (lots[i].canBlendWith(lots[j]) && blendedScore(lots[i], lots[j]) > bestScore) {
-                    bestScore = blendedScore(lots[i], lots[j]);
+                int score = lots[i].canBlendWith(lots[j]) ? blendedScore(lots[i], lots[j]) : NONE;
+                // Of several with one SCORE the smallest number is due, and that comes first here.
+                if (score > bestScore) {
+                    bestScore = score;
                     best = 20 * i + j;
                 }
             }
