@@ -22,7 +22,7 @@ public final class AskedTest {
         }
     }
 
-    private static int[] farm(CherryStation s, int farm) {
+    private static int[] farm(Station s, int farm) {
         int[] got = new int[5];
         for (int what = 0; what < got.length; what++) {
             got[what] = s.ofFarm(farm, what);
@@ -30,7 +30,7 @@ public final class AskedTest {
         return got;
     }
 
-    private static int[] basket(CherryStation s, int basket) {
+    private static int[] basket(Station s, int basket) {
         int[] got = new int[6];
         for (int what = 0; what < got.length; what++) {
             got[what] = s.ofBasket(basket, what);
@@ -38,7 +38,7 @@ public final class AskedTest {
         return got;
     }
 
-    private static int[] tank(CherryStation s, int tank) {
+    private static int[] tank(Station s, int tank) {
         int[] got = new int[5];
         for (int what = 0; what < got.length; what++) {
             got[what] = s.ofTank(tank, what);
@@ -46,7 +46,7 @@ public final class AskedTest {
         return got;
     }
 
-    private static int[] bed(CherryStation s, int bed) {
+    private static int[] bed(Station s, int bed) {
         int[] got = new int[8];
         for (int what = 0; what < got.length; what++) {
             got[what] = s.ofBed(bed, what);
@@ -54,7 +54,7 @@ public final class AskedTest {
         return got;
     }
 
-    private static int[] lot(CherryStation s, int lot) {
+    private static int[] lot(Station s, int lot) {
         int[] got = new int[12];
         for (int what = 0; what < got.length; what++) {
             got[what] = s.ofLot(lot, what);
@@ -62,7 +62,7 @@ public final class AskedTest {
         return got;
     }
 
-    private static int[] many(CherryStation s) {
+    private static int[] many(Station s) {
         int[] got = new int[16];
         for (int what = 0; what < got.length; what++) {
             got[what] = s.many(what);
@@ -71,7 +71,7 @@ public final class AskedTest {
     }
 
     private static void promise18OfFarm() {
-        CherryStation s = new CherryStation();
+        Station s = new Station();
         s.farm(14);
         s.farm(19);
         s.bed(40);
@@ -95,7 +95,7 @@ public final class AskedTest {
     }
 
     private static void promise19OfBasket() {
-        CherryStation s = new CherryStation();
+        Station s = new Station();
         s.farm(14);
         s.farm(19);
         s.bed(40);
@@ -117,7 +117,7 @@ public final class AskedTest {
     }
 
     private static void promise20OfTank() {
-        CherryStation s = new CherryStation();
+        Station s = new Station();
         s.farm(14);
         s.label(0, 0);
         s.bed(40);
@@ -133,7 +133,7 @@ public final class AskedTest {
     }
 
     private static void promise21OfBed() {
-        CherryStation s = new CherryStation();
+        Station s = new Station();
         s.farm(14);
         s.bed(40);
         s.bed(8);
@@ -153,7 +153,7 @@ public final class AskedTest {
     }
 
     private static void promise22OfLot() {
-        CherryStation s = new CherryStation();
+        Station s = new Station();
         s.farm(14);
         s.farm(21);
         s.bed(40);
@@ -181,7 +181,7 @@ public final class AskedTest {
     }
 
     private static void promise23KilosOf() {
-        CherryStation s = new CherryStation();
+        Station s = new Station();
         s.farm(14);
         s.farm(21);
         s.farm(22);
@@ -192,15 +192,15 @@ public final class AskedTest {
         s.store(0);
         row("23: kilos of lot 0", new int[] {s.kilosOf(0, 0), s.kilosOf(0, 1), s.kilosOf(0, 2)}, 25, 0, 15);
         for (int wild : WILD) {
-            Checks.refused("23: kilosOf(" + wild + ", 0)", Checks.INDEX, s, () -> s.kilosOf(wild, 0));
-            Checks.refused("23: kilosOf(0, " + wild + ")", Checks.INDEX, s, () -> s.kilosOf(0, wild));
+            Checks.refused("23: kilosOf(" + wild + ", 0)", Checks.INDEX, s, t -> t.kilosOf(wild, 0));
+            Checks.refused("23: kilosOf(0, " + wild + ")", Checks.INDEX, s, t -> t.kilosOf(0, wild));
         }
-        Checks.refused("23: kilosOf(1, 0)", Checks.INDEX, s, () -> s.kilosOf(1, 0));
-        Checks.refused("23: kilosOf(0, 3)", Checks.INDEX, s, () -> s.kilosOf(0, 3));
+        Checks.refused("23: kilosOf(1, 0)", Checks.INDEX, s, t -> t.kilosOf(1, 0));
+        Checks.refused("23: kilosOf(0, 3)", Checks.INDEX, s, t -> t.kilosOf(0, 3));
     }
 
     private static void promise24Many() {
-        CherryStation s = new CherryStation();
+        Station s = new Station();
         s.farm(14);
         s.farm(21);
         s.bed(40);
@@ -233,13 +233,13 @@ public final class AskedTest {
         // 530 are brought, of which 30 of 53 kilos have two fifths: 120, and 23 of them: 92.
         row("24: and sold", many(s), 25, 2, 5, 3, 3, 1, -752 + 318, 25, 0, 37, 0, 20, 53, 266, 120, 752 + 212);
         for (int wild : WILD) {
-            Checks.refused("24: many(" + wild + ")", Checks.ARGUMENT, s, () -> s.many(wild));
+            Checks.refused("24: many(" + wild + ")", Checks.ARGUMENT, s, t -> t.many(wild));
         }
-        Checks.refused("24: many(16)", Checks.ARGUMENT, s, () -> s.many(16));
+        Checks.refused("24: many(16)", Checks.ARGUMENT, s, t -> t.many(16));
     }
 
     private static void promise25MeanScore() {
-        CherryStation s = new CherryStation();
+        Station s = new Station();
         s.farm(20);
         s.farm(10);
         s.bed(40);
@@ -253,8 +253,8 @@ public final class AskedTest {
         s.cover(2, true);
         s.turn(0);
         s.turn(1);
-        for (int i = 0; i < 200; i++) {
-            s.pass(1, 30, 0);
+        for (int i = 0; i < 25; i++) {
+            s.pass(8, 30, 0);
             s.turn(0);
             s.turn(1);
         }
@@ -278,37 +278,37 @@ public final class AskedTest {
     }
 
     private static void refusals() {
-        CherryStation s = new CherryStation();
+        Station s = new Station();
         s.farm(20);
         s.bed(40);
         s.bring(0, 50, 100);
         Checks.naturalLot(s, 0, 30, 0);
         for (int wild : WILD) {
-            Checks.refused("18: ofFarm(" + wild + ", 0)", Checks.INDEX, s, () -> s.ofFarm(wild, 0));
-            Checks.refused("18: ofFarm(" + wild + ", 5)", Checks.INDEX, s, () -> s.ofFarm(wild, 5));
-            Checks.refused("18: ofFarm(0, " + wild + ")", Checks.ARGUMENT, s, () -> s.ofFarm(0, wild));
-            Checks.refused("19: ofBasket(" + wild + ", 0)", Checks.INDEX, s, () -> s.ofBasket(wild, 0));
-            Checks.refused("19: ofBasket(" + wild + ", 6)", Checks.INDEX, s, () -> s.ofBasket(wild, 6));
-            Checks.refused("19: ofBasket(0, " + wild + ")", Checks.ARGUMENT, s, () -> s.ofBasket(0, wild));
-            Checks.refused("20: ofTank(" + wild + ", 0)", Checks.INDEX, s, () -> s.ofTank(wild, 0));
-            Checks.refused("20: ofTank(" + wild + ", 5)", Checks.INDEX, s, () -> s.ofTank(wild, 5));
-            Checks.refused("20: ofTank(0, " + wild + ")", Checks.ARGUMENT, s, () -> s.ofTank(0, wild));
-            Checks.refused("21: ofBed(" + wild + ", 0)", Checks.INDEX, s, () -> s.ofBed(wild, 0));
-            Checks.refused("21: ofBed(" + wild + ", 8)", Checks.INDEX, s, () -> s.ofBed(wild, 8));
-            Checks.refused("21: ofBed(0, " + wild + ")", Checks.ARGUMENT, s, () -> s.ofBed(0, wild));
-            Checks.refused("22: ofLot(" + wild + ", 0)", Checks.INDEX, s, () -> s.ofLot(wild, 0));
-            Checks.refused("22: ofLot(" + wild + ", 12)", Checks.INDEX, s, () -> s.ofLot(wild, 12));
-            Checks.refused("22: ofLot(0, " + wild + ")", Checks.ARGUMENT, s, () -> s.ofLot(0, wild));
+            Checks.refused("18: ofFarm(" + wild + ", 0)", Checks.INDEX, s, t -> t.ofFarm(wild, 0));
+            Checks.refused("18: ofFarm(" + wild + ", 5)", Checks.INDEX, s, t -> t.ofFarm(wild, 5));
+            Checks.refused("18: ofFarm(0, " + wild + ")", Checks.ARGUMENT, s, t -> t.ofFarm(0, wild));
+            Checks.refused("19: ofBasket(" + wild + ", 0)", Checks.INDEX, s, t -> t.ofBasket(wild, 0));
+            Checks.refused("19: ofBasket(" + wild + ", 6)", Checks.INDEX, s, t -> t.ofBasket(wild, 6));
+            Checks.refused("19: ofBasket(0, " + wild + ")", Checks.ARGUMENT, s, t -> t.ofBasket(0, wild));
+            Checks.refused("20: ofTank(" + wild + ", 0)", Checks.INDEX, s, t -> t.ofTank(wild, 0));
+            Checks.refused("20: ofTank(" + wild + ", 5)", Checks.INDEX, s, t -> t.ofTank(wild, 5));
+            Checks.refused("20: ofTank(0, " + wild + ")", Checks.ARGUMENT, s, t -> t.ofTank(0, wild));
+            Checks.refused("21: ofBed(" + wild + ", 0)", Checks.INDEX, s, t -> t.ofBed(wild, 0));
+            Checks.refused("21: ofBed(" + wild + ", 8)", Checks.INDEX, s, t -> t.ofBed(wild, 8));
+            Checks.refused("21: ofBed(0, " + wild + ")", Checks.ARGUMENT, s, t -> t.ofBed(0, wild));
+            Checks.refused("22: ofLot(" + wild + ", 0)", Checks.INDEX, s, t -> t.ofLot(wild, 0));
+            Checks.refused("22: ofLot(" + wild + ", 12)", Checks.INDEX, s, t -> t.ofLot(wild, 12));
+            Checks.refused("22: ofLot(0, " + wild + ")", Checks.ARGUMENT, s, t -> t.ofLot(0, wild));
         }
-        Checks.refused("18: ofFarm(1, 0)", Checks.INDEX, s, () -> s.ofFarm(1, 0));
-        Checks.refused("18: ofFarm(0, 5)", Checks.ARGUMENT, s, () -> s.ofFarm(0, 5));
-        Checks.refused("19: ofBasket(2, 0)", Checks.INDEX, s, () -> s.ofBasket(2, 0));
-        Checks.refused("19: ofBasket(0, 6)", Checks.ARGUMENT, s, () -> s.ofBasket(0, 6));
-        Checks.refused("20: ofTank(3, 0)", Checks.INDEX, s, () -> s.ofTank(3, 0));
-        Checks.refused("20: ofTank(0, 5)", Checks.ARGUMENT, s, () -> s.ofTank(0, 5));
-        Checks.refused("21: ofBed(1, 0)", Checks.INDEX, s, () -> s.ofBed(1, 0));
-        Checks.refused("21: ofBed(0, 8)", Checks.ARGUMENT, s, () -> s.ofBed(0, 8));
-        Checks.refused("22: ofLot(1, 0)", Checks.INDEX, s, () -> s.ofLot(1, 0));
-        Checks.refused("22: ofLot(0, 12)", Checks.ARGUMENT, s, () -> s.ofLot(0, 12));
+        Checks.refused("18: ofFarm(1, 0)", Checks.INDEX, s, t -> t.ofFarm(1, 0));
+        Checks.refused("18: ofFarm(0, 5)", Checks.ARGUMENT, s, t -> t.ofFarm(0, 5));
+        Checks.refused("19: ofBasket(2, 0)", Checks.INDEX, s, t -> t.ofBasket(2, 0));
+        Checks.refused("19: ofBasket(0, 6)", Checks.ARGUMENT, s, t -> t.ofBasket(0, 6));
+        Checks.refused("20: ofTank(3, 0)", Checks.INDEX, s, t -> t.ofTank(3, 0));
+        Checks.refused("20: ofTank(0, 5)", Checks.ARGUMENT, s, t -> t.ofTank(0, 5));
+        Checks.refused("21: ofBed(1, 0)", Checks.INDEX, s, t -> t.ofBed(1, 0));
+        Checks.refused("21: ofBed(0, 8)", Checks.ARGUMENT, s, t -> t.ofBed(0, 8));
+        Checks.refused("22: ofLot(1, 0)", Checks.INDEX, s, t -> t.ofLot(1, 0));
+        Checks.refused("22: ofLot(0, 12)", Checks.ARGUMENT, s, t -> t.ofLot(0, 12));
     }
 }

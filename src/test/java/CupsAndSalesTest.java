@@ -24,24 +24,24 @@ public final class CupsAndSalesTest {
     }
 
     private static void promise14Bias() {
-        CherryStation s = new CherryStation();
+        Station s = new Station();
         for (int taster : NO_TASTERS) {
-            Checks.refused("14: bias(" + taster + ", 0)", Checks.INDEX, s, () -> s.bias(taster, 0));
-            Checks.refused("14: bias(" + taster + ", 6)", Checks.INDEX, s, () -> s.bias(taster, 6));
+            Checks.refused("14: bias(" + taster + ", 0)", Checks.INDEX, s, t -> t.bias(taster, 0));
+            Checks.refused("14: bias(" + taster + ", 6)", Checks.INDEX, s, t -> t.bias(taster, 6));
         }
         for (int bias : new int[] {-6, 6, Integer.MIN_VALUE, Integer.MAX_VALUE}) {
-            Checks.refused("14: bias(0, " + bias + ")", Checks.ARGUMENT, s, () -> s.bias(0, bias));
+            Checks.refused("14: bias(0, " + bias + ")", Checks.ARGUMENT, s, t -> t.bias(0, bias));
         }
         Checks.equal("14: bias(0, -5)", s.bias(0, -5), 0);
         Checks.equal("14: bias(2, 5)", s.bias(2, 5), 0);
-        Checks.refused("14: bias(0, 6)", Checks.ARGUMENT, s, () -> s.bias(0, 6));
+        Checks.refused("14: bias(0, 6)", Checks.ARGUMENT, s, t -> t.bias(0, 6));
         Checks.equal("14: bias(0, 1)", s.bias(0, 1), -5);
         Checks.equal("14: bias(2, 0)", s.bias(2, 0), 5);
         Checks.equal("14: bias(1, 0)", s.bias(1, 0), 0);
     }
 
     private static void promise15Cup() {
-        CherryStation s = new CherryStation();
+        Station s = new Station();
         s.farm(12);
         s.bed(40);
         Checks.naturalLot(s, 0, 90, 0);
@@ -65,29 +65,29 @@ public final class CupsAndSalesTest {
     }
 
     private static void promise15CupRefuses() {
-        CherryStation s = new CherryStation();
+        Station s = new Station();
         s.farm(12);
         s.bed(40);
-        Checks.refused("15: cup without lots", Checks.INDEX, s, () -> s.cup(0, 0));
+        Checks.refused("15: cup without lots", Checks.INDEX, s, t -> t.cup(0, 0));
         Checks.naturalLot(s, 0, 90, 0);
         Checks.naturalLot(s, 0, 90, 0);
         for (int lot : NO_LOTS) {
-            Checks.refused("15: cup(" + lot + ", 0)", Checks.INDEX, s, () -> s.cup(lot, 0));
+            Checks.refused("15: cup(" + lot + ", 0)", Checks.INDEX, s, t -> t.cup(lot, 0));
         }
         for (int taster : NO_TASTERS) {
-            Checks.refused("15: cup(0, " + taster + ")", Checks.INDEX, s, () -> s.cup(0, taster));
+            Checks.refused("15: cup(0, " + taster + ")", Checks.INDEX, s, t -> t.cup(0, taster));
         }
         s.blend(0, 1);
-        Checks.refused("15: the one blended away", Checks.STATE, s, () -> s.cup(1, 0));
+        Checks.refused("15: the one blended away", Checks.STATE, s, t -> t.cup(1, 0));
         s.cup(0, 0);
         s.sell(0, 1, false);
-        Checks.refused("15: a sold one", Checks.STATE, s, () -> s.cup(0, 0));
-        Checks.refused("15: a sold one, by no taster", Checks.INDEX, s, () -> s.cup(0, 3));
+        Checks.refused("15: a sold one", Checks.STATE, s, t -> t.cup(0, 0));
+        Checks.refused("15: a sold one, by no taster", Checks.INDEX, s, t -> t.cup(0, 3));
     }
 
     /** A station with one farm of height 12, and a bed of 40 with a mix of 30 kilos, dried to 110. */
-    private static CherryStation driedWhole(int ripe) {
-        CherryStation s = new CherryStation();
+    private static Station driedWhole(int ripe) {
+        Station s = new Station();
         s.farm(12);
         s.bed(40);
         s.bring(0, 30, ripe);
@@ -96,7 +96,7 @@ public final class CupsAndSalesTest {
         return s;
     }
 
-    private static void dryTo110(CherryStation s, int from, int bed) {
+    private static void dryTo110(Station s, int from, int bed) {
         int left = from - 110;
         while (left > 0) {
             int warmth = Math.min(40, left);
@@ -107,7 +107,7 @@ public final class CupsAndSalesTest {
         }
     }
 
-    private static void checkScore(String what, CherryStation s, int lot, int score, int cause) {
+    private static void checkScore(String what, Station s, int lot, int score, int cause) {
         Checks.equal(what + ", score", s.ofLot(lot, 10), score);
         Checks.equal(what + ", cause", s.ofLot(lot, 11), cause);
     }
@@ -115,7 +115,7 @@ public final class CupsAndSalesTest {
     private static void scoreOfUnripe() {
         int[][] ripeAndFault = {{100, 0}, {96, 0}, {95, 1}, {91, 1}, {90, 2}, {76, 4}, {1, 19}, {0, 20}};
         for (int[] row : ripeAndFault) {
-            CherryStation s = driedWhole(row[0]);
+            Station s = driedWhole(row[0]);
             s.store(0);
             Checks.equal("score: moisture", s.ofLot(0, 7), 110);
             Checks.equal("score: mould", s.ofLot(0, 6), 0);
@@ -124,8 +124,8 @@ public final class CupsAndSalesTest {
     }
 
     /** A lot of 10 kilos with the points and the moisture 110, washed or (with points below 30) of honey. */
-    private static CherryStation wetOne(int points, boolean isHoney) {
-        CherryStation s = new CherryStation();
+    private static Station wetOne(int points, boolean isHoney) {
+        Station s = new Station();
         s.farm(12);
         s.bed(40);
         s.bring(0, 40, 100);
@@ -144,7 +144,7 @@ public final class CupsAndSalesTest {
         int[][] pointsAndFault = {{60, 0}, {56, 0}, {55, 1}, {51, 1}, {50, 2}, {1, 11}, {0, 12},
             {100, 0}, {104, 0}, {105, 1}, {109, 1}, {110, 2}, {205, 21}};
         for (int[] row : pointsAndFault) {
-            CherryStation s = wetOne(row[0], false);
+            Station s = wetOne(row[0], false);
             checkScore("score: points " + row[0], s, 0, 80 - row[1], row[1] == 0 ? 0 : 2);
         }
         checkScore("score: honey without points", wetOne(0, true), 0, 81, 0);
@@ -152,7 +152,7 @@ public final class CupsAndSalesTest {
     }
 
     private static void scoreOfMould() {
-        CherryStation s = new CherryStation();
+        Station s = new Station();
         s.farm(12);
         s.bed(40);
         s.bed(40);
@@ -177,7 +177,7 @@ public final class CupsAndSalesTest {
         int[][] moistureAndFault = {{125, 0}, {126, 0}, {134, 0}, {135, 1}, {144, 1}, {145, 2}, {200, 7},
             {95, 0}, {94, 0}, {91, 0}, {90, 1}, {86, 1}, {85, 2}, {80, 3}};
         for (int[] row : moistureAndFault) {
-            CherryStation s = new CherryStation();
+            Station s = new Station();
             s.farm(12);
             s.bed(40);
             s.whole(s.bring(0, 30, 100), 0);
@@ -195,7 +195,7 @@ public final class CupsAndSalesTest {
     }
 
     private static void scoreOfAge() {
-        CherryStation s = driedWhole(100);
+        Station s = driedWhole(100);
         s.store(0);
         int[][] daysAndFault = {{29, 0}, {1, 1}, {29, 1}, {1, 2}, {540, 20}};
         for (int[] row : daysAndFault) {
@@ -205,7 +205,7 @@ public final class CupsAndSalesTest {
     }
 
     private static void scoreOfHeightsAndTies() {
-        CherryStation s = new CherryStation();
+        Station s = new Station();
         s.farm(22);
         s.farm(13);
         s.bed(40);
@@ -232,7 +232,7 @@ public final class CupsAndSalesTest {
     }
 
     private static void promise16Blend() {
-        CherryStation s = new CherryStation();
+        Station s = new Station();
         s.farm(20);
         s.farm(11);
         s.label(1, 900);
@@ -280,7 +280,7 @@ public final class CupsAndSalesTest {
     private static void promise16BlendKeepsTheGreater() {
         int[][] firstAndOther = {{0, 1}, {1, 0}};
         for (int[] pair : firstAndOther) {
-            CherryStation s = new CherryStation();
+            Station s = new Station();
             s.farm(20);
             s.bed(40);
             s.bed(40);
@@ -299,31 +299,31 @@ public final class CupsAndSalesTest {
     }
 
     private static void promise16BlendRefuses() {
-        CherryStation s = new CherryStation();
+        Station s = new Station();
         s.farm(20);
         s.bed(40);
-        Checks.refused("16: blend without lots", Checks.INDEX, s, () -> s.blend(0, 0));
+        Checks.refused("16: blend without lots", Checks.INDEX, s, t -> t.blend(0, 0));
         Checks.wetLot(s, 0, 40, 0, 0, false);
         Checks.wetLot(s, 0, 40, 0, 0, true);
         for (int lot : NO_LOTS) {
-            Checks.refused("16: blend(" + lot + ", 0)", Checks.INDEX, s, () -> s.blend(lot, 0));
-            Checks.refused("16: blend(0, " + lot + ")", Checks.INDEX, s, () -> s.blend(0, lot));
-            Checks.refused("16: twice " + lot, Checks.INDEX, s, () -> s.blend(lot, lot));
+            Checks.refused("16: blend(" + lot + ", 0)", Checks.INDEX, s, t -> t.blend(lot, 0));
+            Checks.refused("16: blend(0, " + lot + ")", Checks.INDEX, s, t -> t.blend(0, lot));
+            Checks.refused("16: twice " + lot, Checks.INDEX, s, t -> t.blend(lot, lot));
         }
-        Checks.refused("16: the same", Checks.ARGUMENT, s, () -> s.blend(1, 1));
-        Checks.refused("16: two methods", Checks.STATE, s, () -> s.blend(0, 1));
+        Checks.refused("16: the same", Checks.ARGUMENT, s, t -> t.blend(1, 1));
+        Checks.refused("16: two methods", Checks.STATE, s, t -> t.blend(0, 1));
         Checks.naturalLot(s, 0, 40, 0);
-        Checks.refused("16: honey and natural", Checks.STATE, s, () -> s.blend(1, 2));
+        Checks.refused("16: honey and natural", Checks.STATE, s, t -> t.blend(1, 2));
         Checks.wetLot(s, 0, 40, 0, 0, true);
         s.cup(3, 0);
         s.sell(3, 1, false);
-        Checks.refused("16: with a sold one", Checks.STATE, s, () -> s.blend(1, 3));
-        Checks.refused("16: a sold one first", Checks.STATE, s, () -> s.blend(3, 1));
-        Checks.refused("16: the same sold one", Checks.ARGUMENT, s, () -> s.blend(3, 3));
+        Checks.refused("16: with a sold one", Checks.STATE, s, t -> t.blend(1, 3));
+        Checks.refused("16: a sold one first", Checks.STATE, s, t -> t.blend(3, 1));
+        Checks.refused("16: the same sold one", Checks.ARGUMENT, s, t -> t.blend(3, 3));
     }
 
     private static void promise17Sell() {
-        CherryStation s = new CherryStation();
+        Station s = new Station();
         s.farm(20);
         s.farm(11);
         s.farm(15);
@@ -347,11 +347,11 @@ public final class CupsAndSalesTest {
         Checks.equal("17: its readings stay", s.ofLot(0, 9), 40);
         Checks.equal("17: its mix stays", s.kilosOf(0, 2), 7);
         Checks.equal("17: its score stays", s.ofLot(0, 10), 40);
-        Checks.refused("17: sold twice", Checks.STATE, s, () -> s.sell(0, 37, true));
+        Checks.refused("17: sold twice", Checks.STATE, s, t -> t.sell(0, 37, true));
     }
 
     private static void promise17SellOneKilo() {
-        CherryStation s = new CherryStation();
+        Station s = new Station();
         s.farm(22);
         s.bed(40);
         s.bring(0, 3, 100);
@@ -366,7 +366,7 @@ public final class CupsAndSalesTest {
 
     /** What a lot with this grade brings, of 10 certified and 10 other kilos, for 1 each. */
     private static int soldWithGrade(int grade, boolean isLabelled) {
-        CherryStation s = driedWhole(100);
+        Station s = driedWhole(100);
         s.bed(40);
         s.label(0, 900);
         s.whole(s.bring(0, 30, 100), 1);
@@ -394,29 +394,29 @@ public final class CupsAndSalesTest {
     }
 
     private static void promise17SellRefuses() {
-        CherryStation s = new CherryStation();
+        Station s = new Station();
         s.farm(20);
         s.bed(40);
-        Checks.refused("17: sell without lots", Checks.INDEX, s, () -> s.sell(0, 1, false));
+        Checks.refused("17: sell without lots", Checks.INDEX, s, t -> t.sell(0, 1, false));
         Checks.naturalLot(s, 0, 40, 0);
         Checks.naturalLot(s, 0, 40, 0);
         s.cup(0, 0);
         for (int lot : NO_LOTS) {
-            Checks.refused("17: sell(" + lot + ", 1)", Checks.INDEX, s, () -> s.sell(lot, 1, true));
-            Checks.refused("17: sell(" + lot + ", 0)", Checks.INDEX, s, () -> s.sell(lot, 0, true));
+            Checks.refused("17: sell(" + lot + ", 1)", Checks.INDEX, s, t -> t.sell(lot, 1, true));
+            Checks.refused("17: sell(" + lot + ", 0)", Checks.INDEX, s, t -> t.sell(lot, 0, true));
         }
         for (int price : new int[] {0, 201, -1, Integer.MIN_VALUE, Integer.MAX_VALUE}) {
-            Checks.refused("17: sell(0, " + price + ")", Checks.ARGUMENT, s, () -> s.sell(0, price, true));
+            Checks.refused("17: sell(0, " + price + ")", Checks.ARGUMENT, s, t -> t.sell(0, price, true));
             Checks.refused("17: without grade, sell(1, " + price + ")", Checks.ARGUMENT, s,
-                () -> s.sell(1, price, true));
+                t -> t.sell(1, price, true));
         }
-        Checks.refused("17: without a grade", Checks.STATE, s, () -> s.sell(1, 1, false));
+        Checks.refused("17: without a grade", Checks.STATE, s, t -> t.sell(1, 1, false));
         s.blend(0, 1);
-        Checks.refused("17: its grade is gone", Checks.STATE, s, () -> s.sell(0, 1, false));
-        Checks.refused("17: blended away", Checks.STATE, s, () -> s.sell(1, 1, false));
+        Checks.refused("17: its grade is gone", Checks.STATE, s, t -> t.sell(0, 1, false));
+        Checks.refused("17: blended away", Checks.STATE, s, t -> t.sell(1, 1, false));
         s.cup(0, 2);
         // 26 kilos for 200 are 5200; two fifths of that are the farm's.
         Checks.equal("17: for 200 each", s.sell(0, 200, false), 5200 - 2080);
-        Checks.refused("17: sold already", Checks.STATE, s, () -> s.sell(0, 1, false));
+        Checks.refused("17: sold already", Checks.STATE, s, t -> t.sell(0, 1, false));
     }
 }

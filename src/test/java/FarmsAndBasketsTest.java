@@ -12,7 +12,7 @@ public final class FarmsAndBasketsTest {
     }
 
     private static void promise1NewStation() {
-        CherryStation s = new CherryStation();
+        Station s = new Station();
         for (int what = 0; what <= 15; what++) {
             Checks.equal("1: many(" + what + ") of a new station", s.many(what), 0);
         }
@@ -24,17 +24,17 @@ public final class FarmsAndBasketsTest {
         for (int taster = 0; taster <= 2; taster++) {
             Checks.equal("1: first bias of taster " + taster, s.bias(taster, 0), 0);
         }
-        Checks.refused("1: no farm", Checks.INDEX, s, () -> s.ofFarm(0, 0));
-        Checks.refused("1: no basket", Checks.INDEX, s, () -> s.ofBasket(0, 0));
-        Checks.refused("1: no bed", Checks.INDEX, s, () -> s.ofBed(0, 0));
-        Checks.refused("1: no lot", Checks.INDEX, s, () -> s.ofLot(0, 0));
+        Checks.refused("1: no farm", Checks.INDEX, s, t -> t.ofFarm(0, 0));
+        Checks.refused("1: no basket", Checks.INDEX, s, t -> t.ofBasket(0, 0));
+        Checks.refused("1: no bed", Checks.INDEX, s, t -> t.ofBed(0, 0));
+        Checks.refused("1: no lot", Checks.INDEX, s, t -> t.ofLot(0, 0));
         Checks.equal("1: first price", s.price(1), 5);
     }
 
     private static void promise2Farm() {
-        CherryStation s = new CherryStation();
+        Station s = new Station();
         for (int height : new int[] {9, 23, 0, -10, Integer.MIN_VALUE, Integer.MAX_VALUE}) {
-            Checks.refused("2: farm(" + height + ")", Checks.ARGUMENT, s, () -> s.farm(height));
+            Checks.refused("2: farm(" + height + ")", Checks.ARGUMENT, s, t -> t.farm(height));
         }
         int[] heights = {10, 22, 15, 11, 21, 12};
         for (int i = 0; i < 6; i++) {
@@ -46,13 +46,13 @@ public final class FarmsAndBasketsTest {
             Checks.equal("2: label of farm " + i, s.ofFarm(i, 1), -1);
             Checks.equal("2: coins of farm " + i, s.ofFarm(i, 2), 0);
         }
-        Checks.refused("2: a 7th farm", Checks.STATE, s, () -> s.farm(10));
-        Checks.refused("2: a 7th farm of a wrong height", Checks.ARGUMENT, s, () -> s.farm(9));
+        Checks.refused("2: a 7th farm", Checks.STATE, s, t -> t.farm(10));
+        Checks.refused("2: a 7th farm of a wrong height", Checks.ARGUMENT, s, t -> t.farm(9));
     }
 
     private static void promise3Label() {
-        CherryStation s = new CherryStation();
-        Checks.refused("3: label without farms", Checks.INDEX, s, () -> s.label(0, 0));
+        Station s = new Station();
+        Checks.refused("3: label without farms", Checks.INDEX, s, t -> t.label(0, 0));
         s.farm(10);
         s.farm(20);
         Checks.equal("3: label(1, 900)", s.label(1, 900), -1);
@@ -62,22 +62,22 @@ public final class FarmsAndBasketsTest {
         Checks.equal("3: label of farm 1", s.ofFarm(1, 1), 7);
         Checks.equal("3: label of farm 0 is another", s.ofFarm(0, 1), -1);
         for (int farm : new int[] {-1, 2, 6, Integer.MIN_VALUE, Integer.MAX_VALUE}) {
-            Checks.refused("3: label(" + farm + ", 1)", Checks.INDEX, s, () -> s.label(farm, 1));
-            Checks.refused("3: label(" + farm + ", 901)", Checks.INDEX, s, () -> s.label(farm, 901));
+            Checks.refused("3: label(" + farm + ", 1)", Checks.INDEX, s, t -> t.label(farm, 1));
+            Checks.refused("3: label(" + farm + ", 901)", Checks.INDEX, s, t -> t.label(farm, 901));
         }
         for (int day : new int[] {-2, 901, Integer.MIN_VALUE, Integer.MAX_VALUE}) {
-            Checks.refused("3: label(1, " + day + ")", Checks.ARGUMENT, s, () -> s.label(1, day));
+            Checks.refused("3: label(1, " + day + ")", Checks.ARGUMENT, s, t -> t.label(1, day));
         }
     }
 
     private static void promise4Price() {
-        CherryStation s = new CherryStation();
+        Station s = new Station();
         for (int price : new int[] {0, 51, -1, Integer.MIN_VALUE, Integer.MAX_VALUE}) {
-            Checks.refused("4: price(" + price + ")", Checks.ARGUMENT, s, () -> s.price(price));
+            Checks.refused("4: price(" + price + ")", Checks.ARGUMENT, s, t -> t.price(price));
         }
         Checks.equal("4: price(1)", s.price(1), 5);
         Checks.equal("4: price(50)", s.price(50), 1);
-        Checks.refused("4: price(51)", Checks.ARGUMENT, s, () -> s.price(51));
+        Checks.refused("4: price(51)", Checks.ARGUMENT, s, t -> t.price(51));
         Checks.equal("4: price(7)", s.price(7), 50);
         s.farm(10);
         s.bring(0, 10, 100);
@@ -87,7 +87,7 @@ public final class FarmsAndBasketsTest {
     }
 
     private static void promise5BringFloatsAndPays() {
-        CherryStation s = new CherryStation();
+        Station s = new Station();
         s.farm(10);
         s.farm(11);
         Checks.equal("5: bring(1, 199, 33)", s.bring(1, 199, 33), 0);
@@ -115,7 +115,7 @@ public final class FarmsAndBasketsTest {
     }
 
     private static void promise5BringCertifies() {
-        CherryStation s = new CherryStation();
+        Station s = new Station();
         s.farm(10);
         s.label(0, 1);
         s.pass(47, 0, 0);
@@ -134,24 +134,24 @@ public final class FarmsAndBasketsTest {
     }
 
     private static void promise5BringRefuses() {
-        CherryStation s = new CherryStation();
-        Checks.refused("5: bring without farms", Checks.INDEX, s, () -> s.bring(0, 1, 1));
+        Station s = new Station();
+        Checks.refused("5: bring without farms", Checks.INDEX, s, t -> t.bring(0, 1, 1));
         s.farm(10);
         int[][] wrong = {{0, 50}, {201, 50}, {10, -1}, {10, 101}, {Integer.MIN_VALUE, 50}, {Integer.MAX_VALUE, 50},
             {10, Integer.MIN_VALUE}, {10, Integer.MAX_VALUE}, {0, -1}};
         for (int[] pair : wrong) {
             String text = pair[0] + ", " + pair[1] + ")";
-            Checks.refused("5: bring(0, " + text, Checks.ARGUMENT, s, () -> s.bring(0, pair[0], pair[1]));
-            Checks.refused("5: bring(1, " + text, Checks.INDEX, s, () -> s.bring(1, pair[0], pair[1]));
-            Checks.refused("5: bring(-1, " + text, Checks.INDEX, s, () -> s.bring(-1, pair[0], pair[1]));
+            Checks.refused("5: bring(0, " + text, Checks.ARGUMENT, s, t -> t.bring(0, pair[0], pair[1]));
+            Checks.refused("5: bring(1, " + text, Checks.INDEX, s, t -> t.bring(1, pair[0], pair[1]));
+            Checks.refused("5: bring(-1, " + text, Checks.INDEX, s, t -> t.bring(-1, pair[0], pair[1]));
         }
         for (int i = 0; i < 20; i++) {
             Checks.equal("5: number of a basket", s.bring(0, 1 + i, 100), i);
         }
-        Checks.refused("5: a 21st basket", Checks.STATE, s, () -> s.bring(0, 1, 1));
-        Checks.refused("5: a 21st basket of 0 kilos", Checks.ARGUMENT, s, () -> s.bring(0, 0, 1));
-        Checks.refused("5: a 21st basket of no farm", Checks.INDEX, s, () -> s.bring(1, 1, 1));
+        Checks.refused("5: a 21st basket", Checks.STATE, s, t -> t.bring(0, 1, 1));
+        Checks.refused("5: a 21st basket of 0 kilos", Checks.ARGUMENT, s, t -> t.bring(0, 0, 1));
+        Checks.refused("5: a 21st basket of no farm", Checks.INDEX, s, t -> t.bring(1, 1, 1));
         s.pass(25, 0, 0);
-        Checks.refused("5: spoilt ones count too", Checks.STATE, s, () -> s.bring(0, 1, 1));
+        Checks.refused("5: spoilt ones count too", Checks.STATE, s, t -> t.bring(0, 1, 1));
     }
 }

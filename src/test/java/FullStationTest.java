@@ -1,14 +1,14 @@
 /** All promises at the limits: 6 farms, 5 beds, 20 baskets, 12 lots, all in store, and hour 20000. */
 public final class FullStationTest {
     public static void main(String[] args) {
-        CherryStation s = new CherryStation();
+        Station s = new Station();
         fill(s);
         everyCallAnswers(s);
         sellAll(s);
         Checks.end();
     }
 
-    private static void fill(CherryStation s) {
+    private static void fill(Station s) {
         for (int i = 0; i < 6; i++) {
             s.farm(17 + i);
             s.label(i, 900);
@@ -35,24 +35,24 @@ public final class FullStationTest {
         Checks.passLong(s, 20000, 40, 0);
     }
 
-    private static void everyCallAnswers(CherryStation s) {
+    private static void everyCallAnswers(Station s) {
         Checks.equal("full: hour", s.many(0), 20000);
         Checks.equal("full: points of a tank", s.ofTank(2, 3), 20000 * 11);
         Checks.equal("full: age of a lot", s.ofLot(11, 8), 20000 / 24);
         Checks.equal("full: all scores are at the least", s.bestBlend(), 20 * 1 + 2);
         Checks.same("full: mean score", s.meanScore(), bestGuess(s));
-        Checks.refused("full: farm", Checks.STATE, s, () -> s.farm(10));
-        Checks.refused("full: bed", Checks.STATE, s, () -> s.bed(10));
-        Checks.refused("full: bring", Checks.STATE, s, () -> s.bring(0, 1, 1));
-        Checks.refused("full: pass", Checks.STATE, s, () -> s.pass(1, 1, 1));
-        Checks.refused("full: store", Checks.STATE, s, () -> s.store(4));
-        Checks.refused("full: no 6th farm", Checks.INDEX, s, () -> s.ofFarm(6, 0));
-        Checks.refused("full: no 20th basket", Checks.INDEX, s, () -> s.ofBasket(20, 0));
-        Checks.refused("full: no 5th bed", Checks.INDEX, s, () -> s.ofBed(5, 0));
-        Checks.refused("full: no 12th lot", Checks.INDEX, s, () -> s.ofLot(12, 0));
+        Checks.refused("full: farm", Checks.STATE, s, t -> t.farm(10));
+        Checks.refused("full: bed", Checks.STATE, s, t -> t.bed(10));
+        Checks.refused("full: bring", Checks.STATE, s, t -> t.bring(0, 1, 1));
+        Checks.refused("full: pass", Checks.STATE, s, t -> t.pass(1, 1, 1));
+        Checks.refused("full: store", Checks.STATE, s, t -> t.store(4));
+        Checks.refused("full: no 6th farm", Checks.INDEX, s, t -> t.ofFarm(6, 0));
+        Checks.refused("full: no 20th basket", Checks.INDEX, s, t -> t.ofBasket(20, 0));
+        Checks.refused("full: no 5th bed", Checks.INDEX, s, t -> t.ofBed(5, 0));
+        Checks.refused("full: no 12th lot", Checks.INDEX, s, t -> t.ofLot(12, 0));
     }
 
-    private static double bestGuess(CherryStation s) {
+    private static double bestGuess(Station s) {
         long sum = 0;
         long kilos = 0;
         for (int i = 0; i < 12; i++) {
@@ -62,7 +62,7 @@ public final class FullStationTest {
         return (double) sum / (double) kilos;
     }
 
-    private static void sellAll(CherryStation s) {
+    private static void sellAll(Station s) {
         for (int i = 2; i < 12; i++) {
             Checks.equal("full: blended kilos", s.blend(1, i), 66 * i);
         }

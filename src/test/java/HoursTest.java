@@ -15,7 +15,7 @@ public final class HoursTest {
     }
 
     private static void promise6Refuses() {
-        CherryStation s = new CherryStation();
+        Station s = new Station();
         s.farm(10);
         s.bring(0, 50, 100);
         int[][] wrong = {{0, 10, 10}, {101, 10, 10}, {10, -1, 10}, {10, 41, 10}, {10, 10, -1}, {10, 10, 21},
@@ -23,7 +23,7 @@ public final class HoursTest {
             {1, 0, Integer.MIN_VALUE}, {1, 0, Integer.MAX_VALUE}};
         for (int[] w : wrong) {
             Checks.refused("6: pass(" + w[0] + ", " + w[1] + ", " + w[2] + ")", Checks.ARGUMENT, s,
-                () -> s.pass(w[0], w[1], w[2]));
+                t -> t.pass(w[0], w[1], w[2]));
         }
         Checks.equal("6: pass(100, 40, 20)", s.pass(100, 40, 20), 1);
         Checks.equal("6: pass(1, 0, 0)", s.pass(1, 0, 0), 0);
@@ -31,18 +31,18 @@ public final class HoursTest {
     }
 
     private static void promise6HasAnEnd() {
-        CherryStation s = new CherryStation();
+        Station s = new Station();
         Checks.passLong(s, 19950, 20, 0);
-        Checks.refused("6: beyond hour 20000", Checks.STATE, s, () -> s.pass(51, 20, 0));
-        Checks.refused("6: beyond it, and too warm", Checks.ARGUMENT, s, () -> s.pass(51, 41, 0));
+        Checks.refused("6: beyond hour 20000", Checks.STATE, s, t -> t.pass(51, 20, 0));
+        Checks.refused("6: beyond it, and too warm", Checks.ARGUMENT, s, t -> t.pass(51, 41, 0));
         Checks.equal("6: up to hour 20000", s.pass(50, 20, 0), 0);
         Checks.equal("6: hour", s.many(0), 20000);
-        Checks.refused("6: one more", Checks.STATE, s, () -> s.pass(1, 20, 0));
-        Checks.refused("6: none more", Checks.ARGUMENT, s, () -> s.pass(0, 20, 0));
+        Checks.refused("6: one more", Checks.STATE, s, t -> t.pass(1, 20, 0));
+        Checks.refused("6: none more", Checks.ARGUMENT, s, t -> t.pass(0, 20, 0));
     }
 
     private static void promise6BasketsSpoil() {
-        CherryStation s = new CherryStation();
+        Station s = new Station();
         s.farm(10);
         s.bed(40);
         s.bring(0, 50, 100);
@@ -70,7 +70,7 @@ public final class HoursTest {
     }
 
     private static void promise6TanksFerment() {
-        CherryStation s = new CherryStation();
+        Station s = new Station();
         s.farm(10);
         for (int i = 0; i < 6; i++) {
             s.bring(0, 199, 100);
@@ -97,7 +97,7 @@ public final class HoursTest {
     }
 
     private static void promise6BedsDryByDay() {
-        CherryStation s = new CherryStation();
+        Station s = new Station();
         s.farm(10);
         s.bed(10);
         s.bed(10);
@@ -119,7 +119,7 @@ public final class HoursTest {
     }
 
     private static void promise6BedsDryByDepth() {
-        CherryStation s = new CherryStation();
+        Station s = new Station();
         s.farm(10);
         s.bed(20);
         s.bed(5);
@@ -138,7 +138,7 @@ public final class HoursTest {
     }
 
     private static void promise6BedsInRain() {
-        CherryStation s = new CherryStation();
+        Station s = new Station();
         s.farm(10);
         s.bed(40);
         s.bed(40);
@@ -168,7 +168,7 @@ public final class HoursTest {
     }
 
     private static void promise6MoistureHasAFloor() {
-        CherryStation s = new CherryStation();
+        Station s = new Station();
         s.farm(10);
         s.bed(40);
         s.whole(s.bring(0, 30, 100), 0);
@@ -189,7 +189,7 @@ public final class HoursTest {
     private static void promise6Mould() {
         Checks.equal("6: mould at moisture 251", mouldAfter(34), 1);
         Checks.equal("6: no mould at moisture 250", mouldAfter(35), 0);
-        CherryStation s = new CherryStation();
+        Station s = new Station();
         s.farm(10);
         s.bed(40);
         s.whole(s.bring(0, 30, 100), 0);
@@ -212,7 +212,7 @@ public final class HoursTest {
 
     /** The mould of a bed 12 hours after it was turned, with a last hour as warm as told. */
     private static int mouldAfter(int lastWarmth) {
-        CherryStation s = new CherryStation();
+        Station s = new Station();
         s.farm(10);
         s.bed(40);
         s.whole(s.bring(0, 30, 100), 0);
@@ -226,7 +226,7 @@ public final class HoursTest {
     }
 
     private static void promise6LotsAge() {
-        CherryStation s = new CherryStation();
+        Station s = new Station();
         s.farm(10);
         s.bed(40);
         s.pass(23, 0, 0);

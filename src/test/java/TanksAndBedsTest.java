@@ -22,9 +22,9 @@ public final class TanksAndBedsTest {
     }
 
     private static void promise7Bed() {
-        CherryStation s = new CherryStation();
+        Station s = new Station();
         for (int area : new int[] {4, 41, 0, -5, Integer.MIN_VALUE, Integer.MAX_VALUE}) {
-            Checks.refused("7: bed(" + area + ")", Checks.ARGUMENT, s, () -> s.bed(area));
+            Checks.refused("7: bed(" + area + ")", Checks.ARGUMENT, s, t -> t.bed(area));
         }
         int[] areas = {5, 40, 17, 6, 39};
         for (int i = 0; i < 5; i++) {
@@ -37,12 +37,12 @@ public final class TanksAndBedsTest {
                 Checks.equal("7: ofBed(" + i + ", " + what + ")", s.ofBed(i, what), 0);
             }
         }
-        Checks.refused("7: a 6th bed", Checks.STATE, s, () -> s.bed(5));
-        Checks.refused("7: a 6th bed of a wrong area", Checks.ARGUMENT, s, () -> s.bed(4));
+        Checks.refused("7: a 6th bed", Checks.STATE, s, t -> t.bed(5));
+        Checks.refused("7: a 6th bed of a wrong area", Checks.ARGUMENT, s, t -> t.bed(4));
     }
 
     private static void promise8PulpMixes() {
-        CherryStation s = new CherryStation();
+        Station s = new Station();
         s.farm(10);
         s.farm(11);
         s.label(1, 5);
@@ -62,7 +62,7 @@ public final class TanksAndBedsTest {
         Checks.equal("8: what it held as it was pulped", s.ofBasket(1, 1), 46);
         Checks.equal("8: nothing waits", s.many(8), 0);
         Checks.equal("8: other tanks are empty", s.ofTank(0, 0) + s.ofTank(1, 0), 0);
-        Checks.refused("8: pulped twice", Checks.STATE, s, () -> s.pulp(0, 0));
+        Checks.refused("8: pulped twice", Checks.STATE, s, t -> t.pulp(0, 0));
         s.bed(40);
         s.wash(2, 0, false);
         s.store(0);
@@ -71,7 +71,7 @@ public final class TanksAndBedsTest {
     }
 
     private static void promise8PulpHasRoomAndTime() {
-        CherryStation s = new CherryStation();
+        Station s = new Station();
         s.farm(10);
         s.bed(40);
         for (int i = 0; i < 3; i++) {
@@ -81,7 +81,7 @@ public final class TanksAndBedsTest {
         s.pulp(0, 0);
         s.pulp(1, 0);
         Checks.equal("8: 300 have room", s.pulp(2, 0), 300);
-        Checks.refused("8: 301 have none", Checks.STATE, s, () -> s.pulp(3, 0));
+        Checks.refused("8: 301 have none", Checks.STATE, s, t -> t.pulp(3, 0));
         Checks.equal("8: but in another tank", s.pulp(3, 1), 1);
         Checks.equal("8: ripe of a single kilo", s.ofTank(1, 1), 100);
         s.bring(0, 20, 100);
@@ -91,7 +91,7 @@ public final class TanksAndBedsTest {
         Checks.equal("8: the age stays", s.ofTank(1, 2), 8);
         Checks.equal("8: the points stay", s.ofTank(1, 3), 40);
         s.pass(1, 20, 0);
-        Checks.refused("8: not at an age of 9", Checks.STATE, s, () -> s.pulp(5, 1));
+        Checks.refused("8: not at an age of 9", Checks.STATE, s, t -> t.pulp(5, 1));
         s.wash(1, 0, false);
         Checks.equal("8: a tank that was emptied", s.pulp(5, 1), 10);
         Checks.equal("8: begins with an age of 0", s.ofTank(1, 2), 0);
@@ -99,28 +99,28 @@ public final class TanksAndBedsTest {
     }
 
     private static void promise8PulpRefuses() {
-        CherryStation s = new CherryStation();
+        Station s = new Station();
         s.farm(10);
         s.bring(0, 1, 100);
         s.bring(0, 50, 100);
         s.pass(20, 0, 0);
         for (int basket : NO_BASKETS) {
-            Checks.refused("8: pulp(" + basket + ", 0)", Checks.INDEX, s, () -> s.pulp(basket, 0));
+            Checks.refused("8: pulp(" + basket + ", 0)", Checks.INDEX, s, t -> t.pulp(basket, 0));
         }
         for (int tank : new int[] {-1, 3, Integer.MIN_VALUE, Integer.MAX_VALUE}) {
-            Checks.refused("8: pulp(1, " + tank + ")", Checks.INDEX, s, () -> s.pulp(1, tank));
-            Checks.refused("8: of a kilo, pulp(0, " + tank + ")", Checks.INDEX, s, () -> s.pulp(0, tank));
+            Checks.refused("8: pulp(1, " + tank + ")", Checks.INDEX, s, t -> t.pulp(1, tank));
+            Checks.refused("8: of a kilo, pulp(0, " + tank + ")", Checks.INDEX, s, t -> t.pulp(0, tank));
         }
-        Checks.refused("8: half of a kilo", Checks.STATE, s, () -> s.pulp(0, 0));
+        Checks.refused("8: half of a kilo", Checks.STATE, s, t -> t.pulp(0, 0));
         s.pass(5, 0, 0);
-        Checks.refused("8: a spoilt one", Checks.STATE, s, () -> s.pulp(1, 0));
+        Checks.refused("8: a spoilt one", Checks.STATE, s, t -> t.pulp(1, 0));
         s.bed(40);
         s.whole(s.bring(0, 50, 100), 0);
-        Checks.refused("8: one dried whole", Checks.STATE, s, () -> s.pulp(2, 0));
+        Checks.refused("8: one dried whole", Checks.STATE, s, t -> t.pulp(2, 0));
     }
 
     private static void promise9WashAndHoney() {
-        CherryStation s = new CherryStation();
+        Station s = new Station();
         s.farm(10);
         s.label(0, 100);
         s.bed(10);
@@ -155,31 +155,31 @@ public final class TanksAndBedsTest {
     }
 
     private static void promise9WashRefuses() {
-        CherryStation s = new CherryStation();
+        Station s = new Station();
         s.farm(10);
-        Checks.refused("9: wash without beds", Checks.INDEX, s, () -> s.wash(0, 0, false));
+        Checks.refused("9: wash without beds", Checks.INDEX, s, t -> t.wash(0, 0, false));
         s.bed(5);
         s.bed(5);
         s.pulp(s.bring(0, 120, 100), 0);
         s.pulp(s.bring(0, 122, 100), 1);
         for (int tank : new int[] {-1, 3, Integer.MIN_VALUE, Integer.MAX_VALUE}) {
-            Checks.refused("9: wash(" + tank + ", 0)", Checks.INDEX, s, () -> s.wash(tank, 0, false));
+            Checks.refused("9: wash(" + tank + ", 0)", Checks.INDEX, s, t -> t.wash(tank, 0, false));
         }
         for (int bed : new int[] {-1, 2, 5, Integer.MIN_VALUE, Integer.MAX_VALUE}) {
-            Checks.refused("9: wash(0, " + bed + ")", Checks.INDEX, s, () -> s.wash(0, bed, false));
-            Checks.refused("9: of an empty one, wash(2, " + bed + ")", Checks.INDEX, s, () -> s.wash(2, bed, true));
+            Checks.refused("9: wash(0, " + bed + ")", Checks.INDEX, s, t -> t.wash(0, bed, false));
+            Checks.refused("9: of an empty one, wash(2, " + bed + ")", Checks.INDEX, s, t -> t.wash(2, bed, true));
         }
-        Checks.refused("9: an empty tank", Checks.STATE, s, () -> s.wash(2, 0, false));
-        Checks.refused("9: honey of an empty tank", Checks.STATE, s, () -> s.wash(2, 0, true));
-        Checks.refused("9: 61 kilos on an area of 5", Checks.STATE, s, () -> s.wash(1, 0, false));
+        Checks.refused("9: an empty tank", Checks.STATE, s, t -> t.wash(2, 0, false));
+        Checks.refused("9: honey of an empty tank", Checks.STATE, s, t -> t.wash(2, 0, true));
+        Checks.refused("9: 61 kilos on an area of 5", Checks.STATE, s, t -> t.wash(1, 0, false));
         Checks.equal("9: 60 kilos on it", s.wash(0, 0, false), 60);
         s.pulp(s.bring(0, 20, 100), 0);
-        Checks.refused("9: onto a bed that is not empty", Checks.STATE, s, () -> s.wash(0, 0, false));
+        Checks.refused("9: onto a bed that is not empty", Checks.STATE, s, t -> t.wash(0, 0, false));
         Checks.equal("9: onto an empty one", s.wash(0, 1, true), 10);
     }
 
     private static void promise9HoneyOnlyBelow30() {
-        CherryStation s = new CherryStation();
+        Station s = new Station();
         s.farm(10);
         s.bed(40);
         s.bed(40);
@@ -189,7 +189,7 @@ public final class TanksAndBedsTest {
         s.pass(1, 4, 0);
         Checks.equal("9: points 29", s.ofTank(0, 3), 29);
         s.pass(1, 4, 0);
-        Checks.refused("9: no honey with 30 points", Checks.STATE, s, () -> s.wash(0, 0, true));
+        Checks.refused("9: no honey with 30 points", Checks.STATE, s, t -> t.wash(0, 0, true));
         Checks.equal("9: but washed ones", s.wash(0, 0, false), 10);
         s.pass(27, 4, 0);
         Checks.equal("9: points 29 again", s.ofTank(1, 3), 29);
@@ -198,7 +198,7 @@ public final class TanksAndBedsTest {
     }
 
     private static void promise10Whole() {
-        CherryStation s = new CherryStation();
+        Station s = new Station();
         s.farm(10);
         s.label(0, 0);
         s.bed(5);
@@ -229,45 +229,45 @@ public final class TanksAndBedsTest {
     }
 
     private static void promise10WholeRefuses() {
-        CherryStation s = new CherryStation();
+        Station s = new Station();
         s.farm(10);
         s.bring(0, 61, 100);
         s.bring(0, 50, 100);
-        Checks.refused("10: whole without beds", Checks.INDEX, s, () -> s.whole(0, 0));
+        Checks.refused("10: whole without beds", Checks.INDEX, s, t -> t.whole(0, 0));
         s.bed(5);
         for (int basket : NO_BASKETS) {
-            Checks.refused("10: whole(" + basket + ", 0)", Checks.INDEX, s, () -> s.whole(basket, 0));
+            Checks.refused("10: whole(" + basket + ", 0)", Checks.INDEX, s, t -> t.whole(basket, 0));
         }
         for (int bed : new int[] {-1, 1, 5, Integer.MIN_VALUE, Integer.MAX_VALUE}) {
-            Checks.refused("10: whole(0, " + bed + ")", Checks.INDEX, s, () -> s.whole(0, bed));
+            Checks.refused("10: whole(0, " + bed + ")", Checks.INDEX, s, t -> t.whole(0, bed));
         }
-        Checks.refused("10: 61 on an area of 5", Checks.STATE, s, () -> s.whole(0, 0));
+        Checks.refused("10: 61 on an area of 5", Checks.STATE, s, t -> t.whole(0, 0));
         s.whole(1, 0);
-        Checks.refused("10: twice", Checks.STATE, s, () -> s.whole(1, 0));
+        Checks.refused("10: twice", Checks.STATE, s, t -> t.whole(1, 0));
         s.bring(0, 2, 100);
-        Checks.refused("10: onto a bed that is not empty", Checks.STATE, s, () -> s.whole(2, 0));
+        Checks.refused("10: onto a bed that is not empty", Checks.STATE, s, t -> t.whole(2, 0));
         s.store(0);
-        Checks.refused("10: one that is dried already", Checks.STATE, s, () -> s.whole(1, 0));
+        Checks.refused("10: one that is dried already", Checks.STATE, s, t -> t.whole(1, 0));
         s.pulp(2, 0);
-        Checks.refused("10: one that is pulped", Checks.STATE, s, () -> s.whole(2, 0));
+        Checks.refused("10: one that is pulped", Checks.STATE, s, t -> t.whole(2, 0));
         s.bring(0, 3, 100);
         s.pass(25, 0, 0);
-        Checks.refused("10: one that is spoilt", Checks.STATE, s, () -> s.whole(3, 0));
-        Checks.refused("10: one that is spoilt, onto no bed", Checks.INDEX, s, () -> s.whole(3, 1));
+        Checks.refused("10: one that is spoilt", Checks.STATE, s, t -> t.whole(3, 0));
+        Checks.refused("10: one that is spoilt, onto no bed", Checks.INDEX, s, t -> t.whole(3, 1));
     }
 
     private static void promise11Turn() {
-        CherryStation s = new CherryStation();
+        Station s = new Station();
         s.farm(10);
-        Checks.refused("11: turn without beds", Checks.INDEX, s, () -> s.turn(0));
+        Checks.refused("11: turn without beds", Checks.INDEX, s, t -> t.turn(0));
         s.bed(40);
         s.bed(40);
-        Checks.refused("11: an empty bed", Checks.STATE, s, () -> s.turn(0));
+        Checks.refused("11: an empty bed", Checks.STATE, s, t -> t.turn(0));
         s.whole(s.bring(0, 50, 100), 0);
         s.whole(s.bring(0, 50, 100), 1);
         s.pass(5, 10, 3);
         for (int bed : new int[] {-1, 2, 5, Integer.MIN_VALUE, Integer.MAX_VALUE}) {
-            Checks.refused("11: turn(" + bed + ")", Checks.INDEX, s, () -> s.turn(bed));
+            Checks.refused("11: turn(" + bed + ")", Checks.INDEX, s, t -> t.turn(bed));
         }
         Checks.equal("11: unturned before", s.turn(0), 5);
         Checks.equal("11: unturned after", s.ofBed(0, 5), 0);
@@ -276,17 +276,17 @@ public final class TanksAndBedsTest {
         s.pass(2, 10, 0);
         Checks.equal("11: two hours later", s.turn(0), 2);
         s.store(0);
-        Checks.refused("11: emptied", Checks.STATE, s, () -> s.turn(0));
+        Checks.refused("11: emptied", Checks.STATE, s, t -> t.turn(0));
     }
 
     private static void promise12Cover() {
-        CherryStation s = new CherryStation();
+        Station s = new Station();
         s.farm(10);
-        Checks.refused("12: cover without beds", Checks.INDEX, s, () -> s.cover(0, true));
+        Checks.refused("12: cover without beds", Checks.INDEX, s, t -> t.cover(0, true));
         s.bed(40);
         s.bed(40);
         for (int bed : new int[] {-1, 2, 5, Integer.MIN_VALUE, Integer.MAX_VALUE}) {
-            Checks.refused("12: cover(" + bed + ", true)", Checks.INDEX, s, () -> s.cover(bed, true));
+            Checks.refused("12: cover(" + bed + ", true)", Checks.INDEX, s, t -> t.cover(bed, true));
         }
         Checks.equal("12: not at first", s.cover(0, false), false);
         Checks.equal("12: not yet", s.cover(0, true), false);
@@ -302,7 +302,7 @@ public final class TanksAndBedsTest {
     }
 
     private static void promise13StoreHalves() {
-        CherryStation s = new CherryStation();
+        Station s = new Station();
         s.farm(10);
         s.farm(12);
         s.label(1, 9);
@@ -332,7 +332,7 @@ public final class TanksAndBedsTest {
     }
 
     private static void promise13StoreThirds() {
-        CherryStation s = new CherryStation();
+        Station s = new Station();
         s.farm(10);
         s.label(0, 9);
         s.bed(40);
@@ -350,23 +350,23 @@ public final class TanksAndBedsTest {
     }
 
     private static void promise13StoreRefuses() {
-        CherryStation s = new CherryStation();
+        Station s = new Station();
         s.farm(10);
         s.farm(10);
-        Checks.refused("13: store without beds", Checks.INDEX, s, () -> s.store(0));
+        Checks.refused("13: store without beds", Checks.INDEX, s, t -> t.store(0));
         s.bed(40);
         for (int bed : new int[] {-1, 1, 5, Integer.MIN_VALUE, Integer.MAX_VALUE}) {
-            Checks.refused("13: store(" + bed + ")", Checks.INDEX, s, () -> s.store(bed));
+            Checks.refused("13: store(" + bed + ")", Checks.INDEX, s, t -> t.store(bed));
         }
-        Checks.refused("13: an empty bed", Checks.STATE, s, () -> s.store(0));
+        Checks.refused("13: an empty bed", Checks.STATE, s, t -> t.store(0));
         s.pulp(s.bring(0, 2, 100), 0);
         s.pulp(s.bring(1, 2, 100), 0);
         s.wash(0, 0, false);
         Checks.equal("13: two kilos of two farms", s.ofBed(0, 2), 2);
-        Checks.refused("13: half a kilo of each", Checks.STATE, s, () -> s.store(0));
+        Checks.refused("13: half a kilo of each", Checks.STATE, s, t -> t.store(0));
         s.bed(5);
         s.whole(s.bring(0, 2, 100), 1);
-        Checks.refused("13: a third of 2", Checks.STATE, s, () -> s.store(1));
+        Checks.refused("13: a third of 2", Checks.STATE, s, t -> t.store(1));
         s.bed(5);
         s.whole(s.bring(0, 3, 100), 2);
         Checks.equal("13: a third of 3", s.store(2), 0);
@@ -374,7 +374,7 @@ public final class TanksAndBedsTest {
     }
 
     private static void promise13TwelveLots() {
-        CherryStation s = new CherryStation();
+        Station s = new Station();
         s.farm(10);
         s.bed(40);
         for (int i = 0; i < 12; i++) {
@@ -384,10 +384,10 @@ public final class TanksAndBedsTest {
             Checks.equal("13: kilos of lot " + i, s.ofLot(i, 0), 10 + i);
         }
         s.whole(s.bring(0, 30, 100), 0);
-        Checks.refused("13: a 13th lot", Checks.STATE, s, () -> s.store(0));
+        Checks.refused("13: a 13th lot", Checks.STATE, s, t -> t.store(0));
         s.cup(0, 0);
         s.sell(0, 1, false);
-        Checks.refused("13: sold ones count too", Checks.STATE, s, () -> s.store(0));
-        Checks.refused("13: a 13th lot of no bed", Checks.INDEX, s, () -> s.store(1));
+        Checks.refused("13: sold ones count too", Checks.STATE, s, t -> t.store(0));
+        Checks.refused("13: a 13th lot of no bed", Checks.INDEX, s, t -> t.store(1));
     }
 }

@@ -20,7 +20,7 @@ public final class WouldBeTest {
     }
 
     private static void promise26ReadyIn() {
-        CherryStation s = new CherryStation();
+        Station s = new Station();
         s.farm(14);
         Checks.equal("26: an empty tank", s.readyIn(0, 40), -1);
         s.pulp(s.bring(0, 100, 100), 0);
@@ -43,7 +43,7 @@ public final class WouldBeTest {
     }
 
     private static void promise26Ends() {
-        CherryStation s = new CherryStation();
+        Station s = new Station();
         s.farm(14);
         Checks.passLong(s, 20000, 0, 0);
         s.pulp(s.bring(0, 100, 100), 0);
@@ -53,17 +53,17 @@ public final class WouldBeTest {
     }
 
     private static void promise26Refuses() {
-        CherryStation s = new CherryStation();
+        Station s = new Station();
         for (int wild : WILD) {
-            Checks.refused("26: readyIn(" + wild + ", 20)", Checks.INDEX, s, () -> s.readyIn(wild, 20));
-            Checks.refused("26: readyIn(" + wild + ", 41)", Checks.INDEX, s, () -> s.readyIn(wild, 41));
-            Checks.refused("26: readyIn(0, " + wild + ")", Checks.ARGUMENT, s, () -> s.readyIn(0, wild));
+            Checks.refused("26: readyIn(" + wild + ", 20)", Checks.INDEX, s, t -> t.readyIn(wild, 20));
+            Checks.refused("26: readyIn(" + wild + ", 41)", Checks.INDEX, s, t -> t.readyIn(wild, 41));
+            Checks.refused("26: readyIn(0, " + wild + ")", Checks.ARGUMENT, s, t -> t.readyIn(0, wild));
         }
-        Checks.refused("26: readyIn(3, 20)", Checks.INDEX, s, () -> s.readyIn(3, 20));
+        Checks.refused("26: readyIn(3, 20)", Checks.INDEX, s, t -> t.readyIn(3, 20));
     }
 
     private static void promise27DryIn() {
-        CherryStation s = new CherryStation();
+        Station s = new Station();
         s.farm(14);
         s.bed(40);
         s.bed(10);
@@ -99,31 +99,34 @@ public final class WouldBeTest {
 
     private static void promise27MatchesPass() {
         for (int warmth = 1; warmth <= 40; warmth += 3) {
-            CherryStation s = new CherryStation();
+            Station s = new Station();
             s.farm(14);
             s.bed(7);
             s.cover(0, warmth % 2 == 0);
             s.pass(warmth, 0, 0);
             s.whole(s.bring(0, 80, 100), 0);
             int due = s.dryIn(0, warmth);
-            int hours = 0;
-            while (hours < 400 && s.ofBed(0, 4) > 125) {
-                s.pass(1, warmth, 0);
-                hours++;
-            }
-            Checks.equal("27: as hours go by with " + warmth, due, s.ofBed(0, 4) <= 125 ? hours : -1);
+            int hours = due == -1 ? 401 : due;
+            Checks.equal("27: an hour earlier, with " + warmth, moistureIn(s, hours - 1, warmth) > 125, true);
+            Checks.equal("27: as hours go by, with " + warmth, due == -1 || moistureIn(s, hours, warmth) <= 125, true);
         }
     }
 
+    private static int moistureIn(Station s, int hours, int warmth) {
+        Station twin = s.twin();
+        Checks.passLong(twin, hours, warmth, 0);
+        return twin.ofBed(0, 4);
+    }
+
     private static void promise27Ends() {
-        CherryStation s = new CherryStation();
+        Station s = new Station();
         s.farm(14);
         s.bed(40);
         Checks.passLong(s, 20000, 0, 0);
         s.whole(s.bring(0, 30, 100), 0);
         // Hour 20000 has the time 8; 475 by 40 are 12 hours of days.
         Checks.equal("27: beyond hour 20000", s.dryIn(0, 40), 9 + 14 + 3);
-        CherryStation t = new CherryStation();
+        Station t = new Station();
         t.farm(14);
         t.bed(40);
         t.pulp(t.bring(0, 60, 100), 0);
@@ -147,18 +150,18 @@ public final class WouldBeTest {
     }
 
     private static void promise27Refuses() {
-        CherryStation s = new CherryStation();
-        Checks.refused("27: dryIn without beds", Checks.INDEX, s, () -> s.dryIn(0, 20));
+        Station s = new Station();
+        Checks.refused("27: dryIn without beds", Checks.INDEX, s, t -> t.dryIn(0, 20));
         s.bed(20);
         for (int wild : WILD) {
-            Checks.refused("27: dryIn(" + wild + ", 20)", Checks.INDEX, s, () -> s.dryIn(wild, 20));
-            Checks.refused("27: dryIn(" + wild + ", 41)", Checks.INDEX, s, () -> s.dryIn(wild, 41));
-            Checks.refused("27: dryIn(0, " + wild + ")", Checks.ARGUMENT, s, () -> s.dryIn(0, wild));
+            Checks.refused("27: dryIn(" + wild + ", 20)", Checks.INDEX, s, t -> t.dryIn(wild, 20));
+            Checks.refused("27: dryIn(" + wild + ", 41)", Checks.INDEX, s, t -> t.dryIn(wild, 41));
+            Checks.refused("27: dryIn(0, " + wild + ")", Checks.ARGUMENT, s, t -> t.dryIn(0, wild));
         }
-        Checks.refused("27: dryIn(1, 20)", Checks.INDEX, s, () -> s.dryIn(1, 20));
+        Checks.refused("27: dryIn(1, 20)", Checks.INDEX, s, t -> t.dryIn(1, 20));
     }
 
-    private static void dryAll(CherryStation s, int beds) {
+    private static void dryAll(Station s, int beds) {
         for (int i = 0; i < 40; i++) {
             for (int bed = 0; bed < beds; bed++) {
                 s.turn(bed);
@@ -168,7 +171,7 @@ public final class WouldBeTest {
     }
 
     private static void promise28BestBlend() {
-        CherryStation s = new CherryStation();
+        Station s = new Station();
         int[] heights = {10, 16, 22, 12};
         Checks.equal("28: without lots", s.bestBlend(), -1);
         for (int i = 0; i < 4; i++) {
@@ -203,7 +206,7 @@ public final class WouldBeTest {
     }
 
     private static void promise28Ties() {
-        CherryStation s = new CherryStation();
+        Station s = new Station();
         s.farm(10);
         s.farm(20);
         for (int i = 0; i < 5; i++) {
@@ -216,7 +219,7 @@ public final class WouldBeTest {
         }
         Checks.equal("28: of several the smallest number", s.bestBlend(), 20 * 1 + 2);
         // Blended with the older lot 1 one is worse than without it.
-        CherryStation t = new CherryStation();
+        Station t = new Station();
         t.farm(20);
         t.bed(40);
         for (int i = 0; i < 3; i++) {
@@ -238,7 +241,7 @@ public final class WouldBeTest {
 
     /** Four lots: the last two natural or with more points, or the first two with more mould or rain. */
     private static int bestOfFour(boolean isNatural, int points, int mouldHours, int rain) {
-        CherryStation s = new CherryStation();
+        Station s = new Station();
         s.farm(20);
         for (int i = 0; i < 4; i++) {
             s.bed(40);
@@ -271,7 +274,7 @@ public final class WouldBeTest {
         return s.bestBlend();
     }
 
-    private static void layWashed(CherryStation s, int bed, int points) {
+    private static void layWashed(Station s, int bed, int points) {
         s.pulp(s.bring(0, 60, 100), 0);
         if (points > 0) {
             s.pass(points / 10, 40, 0);
@@ -280,7 +283,7 @@ public final class WouldBeTest {
     }
 
     private static void promise29WouldShare() {
-        CherryStation s = new CherryStation();
+        Station s = new Station();
         s.farm(22);
         s.farm(21);
         s.farm(20);
@@ -309,30 +312,30 @@ public final class WouldBeTest {
     }
 
     private static void promise29Refuses() {
-        CherryStation s = new CherryStation();
+        Station s = new Station();
         s.farm(22);
         s.bed(40);
-        Checks.refused("29: without lots", Checks.INDEX, s, () -> s.wouldShare(0, 0, 1, true));
+        Checks.refused("29: without lots", Checks.INDEX, s, t -> t.wouldShare(0, 0, 1, true));
         Checks.naturalLot(s, 0, 60, 0);
         for (int price : new int[] {0, 201, Integer.MIN_VALUE, Integer.MAX_VALUE}) {
-            Checks.refused("29: for " + price, Checks.ARGUMENT, s, () -> s.wouldShare(0, 0, price, true));
-            Checks.refused("29: no lot, for " + price, Checks.INDEX, s, () -> s.wouldShare(1, 0, price, true));
-            Checks.refused("29: no farm, for " + price, Checks.INDEX, s, () -> s.wouldShare(0, 1, price, true));
+            Checks.refused("29: for " + price, Checks.ARGUMENT, s, t -> t.wouldShare(0, 0, price, true));
+            Checks.refused("29: no lot, for " + price, Checks.INDEX, s, t -> t.wouldShare(1, 0, price, true));
+            Checks.refused("29: no farm, for " + price, Checks.INDEX, s, t -> t.wouldShare(0, 1, price, true));
         }
-        Checks.refused("29: without a grade", Checks.STATE, s, () -> s.wouldShare(0, 0, 1, true));
+        Checks.refused("29: without a grade", Checks.STATE, s, t -> t.wouldShare(0, 0, 1, true));
         s.cup(0, 0);
         for (int wild : WILD) {
-            Checks.refused("29: lot " + wild, Checks.INDEX, s, () -> s.wouldShare(wild, 0, 1, true));
-            Checks.refused("29: farm " + wild, Checks.INDEX, s, () -> s.wouldShare(0, wild, 1, true));
+            Checks.refused("29: lot " + wild, Checks.INDEX, s, t -> t.wouldShare(wild, 0, 1, true));
+            Checks.refused("29: farm " + wild, Checks.INDEX, s, t -> t.wouldShare(0, wild, 1, true));
         }
         Checks.equal("29: for 1", s.wouldShare(0, 0, 1, false), 8);
         Checks.equal("29: for 200", s.wouldShare(0, 0, 200, false), 1600);
         s.sell(0, 1, false);
-        Checks.refused("29: sold", Checks.STATE, s, () -> s.wouldShare(0, 0, 1, true));
-        Checks.refused("29: sold, and no farm", Checks.INDEX, s, () -> s.wouldShare(0, 1, 1, true));
+        Checks.refused("29: sold", Checks.STATE, s, t -> t.wouldShare(0, 0, 1, true));
+        Checks.refused("29: sold, and no farm", Checks.INDEX, s, t -> t.wouldShare(0, 1, 1, true));
     }
 
-    private static long digestByItsParts(CherryStation s) {
+    private static long digestByItsParts(Station s) {
         long d = 7802;
         for (int what = 0; what <= 15; what++) {
             d = d * 31 + s.many(what);
@@ -371,7 +374,7 @@ public final class WouldBeTest {
     }
 
     private static void promise30Digest() {
-        CherryStation s = new CherryStation();
+        Station s = new Station();
         Checks.equal("30: digest of a new station", s.digest(), -7132108181383346008L);
         Checks.equal("30: by its parts", s.digest(), digestByItsParts(s));
         s.farm(22);
