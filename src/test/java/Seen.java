@@ -4,6 +4,8 @@ import java.util.List;
 /** All that can be seen of a station: what every asking method answers, and the price and the biases it was told. */
 final class Seen {
     private static final int[] WARMTHS = {0, 4, 25, 40};
+    private static final List<String> REFUSALS =
+        List.of(Checks.INDEX.getName(), Checks.ARGUMENT.getName(), Checks.STATE.getName());
 
     interface Question {
         Object to(Station station);
@@ -92,19 +94,15 @@ final class Seen {
 
     /** Each question with its answer, on twins of the station, on which the call is made first (null: none). */
     private List<String> answers(Station station, Checks.Call call) {
+        Asker asker = new Asker(station, call);
         List<String> answers = new ArrayList<>();
-        Station twin = null;
         for (int i = 0; i < questions.size(); i++) {
-            if (twin == null || twin.callsLeft() == 0) {
-                twin = station.twin();
-                if (call != null) {
-                    Checks.outcome(twin, call);
-                }
-            }
-            Station asked = twin;
             Question question = questions.get(i);
             String[] answer = {null};
-            String outcome = Checks.outcome(asked, s -> answer[0] = question.to(s).toString());
+            String outcome = Checks.outcome(asker.next(), s -> answer[0] = question.to(s).toString());
+            if (answer[0] == null && !REFUSALS.contains(outcome)) {
+                Checks.complain(names.get(i) + " threw " + outcome);
+            }
             answers.add(names.get(i) + " = " + (answer[0] == null ? outcome : answer[0]));
         }
         return answers;
