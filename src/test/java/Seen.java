@@ -7,6 +7,12 @@ final class Seen {
     private static final List<String> REFUSALS =
         List.of(Checks.INDEX.getName(), Checks.ARGUMENT.getName(), Checks.STATE.getName());
 
+    // What was seen last, because many calls in a row are tried on one station.
+    private static Station lastStation = null;
+    private static int lastChangeCount = 0;
+    private static Seen lastSeen = null;
+    private static List<String> lastAnswers = null;
+
     interface Question {
         Object to(Station station);
     }
@@ -108,12 +114,6 @@ final class Seen {
         return answers;
     }
 
-    // What was seen last, because many calls in a row are tried on one station.
-    private static Station lastStation = null;
-    private static int lastChangeCount = 0;
-    private static Seen lastSeen = null;
-    private static List<String> lastAnswers = null;
-
     /** What differs once the call was made on the station: empty, if nothing has changed. */
     static List<String> changedBy(Station station, Checks.Call call) {
         if (station != lastStation || station.changeCount() != lastChangeCount) {
@@ -126,7 +126,7 @@ final class Seen {
         List<String> changed = new ArrayList<>();
         for (int i = 0; i < after.size(); i++) {
             if (!after.get(i).equals(lastAnswers.get(i))) {
-                changed.add(after.get(i) + ", due is" + lastAnswers.get(i).substring(lastAnswers.get(i).indexOf(" =") + 2));
+                changed.add(after.get(i) + ", before it was " + lastAnswers.get(i));
             }
         }
         return changed;
