@@ -1,3 +1,5 @@
+import java.util.List;
+
 /** What the tests of this project share: checks that print what is wrong, and short ways to a state. */
 final class Checks {
     static final Class<IndexOutOfBoundsException> INDEX = IndexOutOfBoundsException.class;
@@ -71,8 +73,9 @@ final class Checks {
 
     static void unchanged(String what, Station station, Call call) {
         checked++;
-        for (String changed : Seen.changedBy(station, call)) {
-            complain(what + " changed the station: " + changed);
+        List<String> changed = Seen.changedBy(station, call);
+        if (!changed.isEmpty()) {
+            complain(what + " changed " + changed.size() + " answers of the station: " + changed.get(0));
         }
     }
 
