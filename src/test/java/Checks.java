@@ -24,8 +24,8 @@ final class Checks {
     }
 
     /**
-     * The checks from here on hold this sentence of the document. QuotesTest compares its words with the document, and
-     * asks for one of these for each sentence there that says when a call throws.
+     * The checks from here on hold this sentence of the document. SentencesTest compares its words with the document,
+     * and asks for one of these for each sentence there with a number, a bound, something empty or an exception.
      */
     static void sentence(String place, String words) {
         held = place + ", \"" + words + "\": ";
